@@ -120,6 +120,8 @@ public final class CouncilTest {
     private static void councilAnew() {
         C.part("2 a council anew");
         MoonVeto x = Checks.of(SIX);
+        x.cloud(0, true);
+        x.cloud(109, true);
         x.cloud(34, true);
         x.reading(0, 20, true);
         x.tell(0);
@@ -128,7 +130,7 @@ public final class CouncilTest {
         C.due("many(1)", x.many(1), 5);
         C.due("many(2)", x.many(2), 5);
         C.due("many(3)", x.many(3), 1);
-        C.due("many(4)", x.many(4), 1);
+        C.due("many(4)", x.many(4), 3);
         C.due("council of a text", Checks.council(x, "m006013;b10661"), 1);
         C.due("many(0)", x.many(0), 1);
         C.due("many(1)", x.many(1), 0);
@@ -136,6 +138,8 @@ public final class CouncilTest {
         C.due("many(3)", x.many(3), 0);
         C.due("many(4)", x.many(4), 0);
         C.due("cloud(34, true)", x.cloud(34, true), 1);
+        C.due("cloud(0, false)", x.cloud(0, false), 0);
+        C.due("cloud(109, false)", x.cloud(109, false), 0);
         C.due("ofBill(1, 0)", x.ofBill(1, 0), MoonVeto.UNKNOWN);
         C.due("trace()", x.trace(), 1);
         C.due("cell(0, 0, 0)", x.cell(0, 0, 0), 'm');

@@ -108,6 +108,10 @@ public final class DaysTest {
         earlier.move(0, 11);
         C.due("force(11): a later one, ahead of its force", earlier.force(11), 2);
         C.due("force(12): a later one", earlier.force(12), 1);
+        MoonVeto chain = Checks.of("m006010;b01669;r02609;r03619;r04629;r05639;r06649");
+        C.due("force(6): a chain of five", chain.force(6), 21);
+        C.due("force(7): a chain of six", chain.force(7), 42);
+        C.due("holds(0): in force on days 2, 4, 6", chain.holds(0), 3);
         MoonVeto itself = Checks.of("m006010;r10601");
         C.due("holds(0) of a repeal that names itself, and goes beyond LASTS", itself.holds(0), 99);
         MoonVeto others = Checks.of("m006010;b10669;b20609;s20609");

@@ -37,6 +37,9 @@ public final class SheetsTest {
         C.due("cell(0, 59, 2)", x.cell(0, 59, 2), 7);
         C.due("sheet(0, 2, 60)", x.sheet(0, 2, 60), 1);
         C.due("cell(0, 59, 2) of a new row", x.cell(0, 59, 2), 0);
+        x.put(0, 0, 7);
+        x.sheet(0, 2, 1);
+        C.due("cell(0, 0, 2) of a new row", x.cell(0, 0, 2), 0);
         C.due("sheet(0, 0, 0)", x.sheet(0, 0, 0), 1);
         C.due("put(0, 0, 1)", x.put(0, 0, 1), -13);
         C.due("lose(0): a row of none is a row", x.lose(0), 1);
