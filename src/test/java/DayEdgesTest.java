@@ -19,6 +19,7 @@ public final class DayEdgesTest {
         repealsHaveNoEnd();
         laterOnes();
         repealsOnTheDayItself();
+        repealsOnTheLastDay();
         repealsOfNone();
         repealsOfRepeals();
         sunsetKindsOfNames();
@@ -241,6 +242,21 @@ public final class DayEdgesTest {
         C.due("passing(): a BILL that is named PASSES all the same", x.passing(), 7);
         x.move(1, 89);
         C.due("holds(0): a REPEAL that is STRUCK", x.holds(0), 99);
+    }
+
+    private static void repealsOnTheLastDay() {
+        C.part("10, 11 \"in FORCE on that day itself\": the last day of a SUNSET");
+        for (int last : new int[] {54, 55, 56, 57, 100}) {
+            MoonVeto x = Checks.of(RARE + ";s" + two(last - 10) + "661;r" + two(last - 1) + "601");
+            String of = " of a last day " + last;
+            C.due("force ahead of the REPEAL" + of, x.force(last - 1), 1);
+            C.due("force on the last day" + of, x.force(last), 2);
+            C.due("holds(0)" + of, x.holds(0), 9);
+            x.move(1, last - 11);
+            C.due("holds(0): the REPEAL is not LATER" + of, x.holds(0), 10);
+            x.move(1, last - 10);
+            C.due("holds(0): the REPEAL is of its DAY" + of, x.holds(0), 0);
+        }
     }
 
     private static void repealsOfNone() {
