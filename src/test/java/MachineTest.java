@@ -102,7 +102,7 @@ public final class MachineTest {
         String at = "(" + k + ", " + lane + ", " + i + ", " + n + ")";
         due("council" + at, x.council(k, lane, i, n), m.council(k, lane, i, n));
         due("chronicle" + at, x.chronicle(k, lane, i, n), m.chronicle(k, lane, i, n));
-        // The first days of a council are mostly without any act in force, as are the cells of a new row.
+        // On the first days mostly nothing is in force, so a new row is a chronicle for some of them.
         if (up(2) == 0) {
             due("sheet of 12", x.sheet(k, lane, 12), m.sheet(k, lane, 12));
             int v = up(8);
@@ -114,7 +114,7 @@ public final class MachineTest {
         }
     }
 
-    /** Codes of a text go to a sheet from a cell on, perhaps too many for it. */
+    /** Codes of a text go to a sheet from a cell on, and a council is made of as many, or of another number. */
     private static void text(int k, int lane) {
         String text = TEXTS[up(TEXTS.length)];
         int i = up(3);
